@@ -333,7 +333,12 @@ public final class ArchiveOfDeltas {
             return refuse(NOBODY);
         }
         int both = now.versions[a].reach & now.versions[b].reach;
-        return both == 0 ? LACKING : 31 - Integer.numberOfLeadingZeros(both);
+        for (int v = MOST_VERSIONS - 1; v >= 0; v--) {
+            if ((both >> v & 1) == 1) {
+                return v;
+            }
+        }
+        return LACKING;
     }
 
     public int generations(int h, int n) {

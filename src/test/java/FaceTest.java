@@ -116,8 +116,7 @@ public final class FaceTest {
         }
         must(!Pattern.compile("\"\\s*\\+|\\+\\s*\"").matcher(bare).find(), "texts are not joined by +");
         Matcher library = Pattern.compile("\\b([A-Z]\\w*)\\.(\\w+)\\s*\\(").matcher(code);
-        Set<String> allowed = Set.of("Math.max", "Math.min", "Integer.bitCount", "Integer.numberOfLeadingZeros",
-                "System.arraycopy");
+        Set<String> allowed = Set.of("Math.max", "Math.min", "Integer.bitCount", "System.arraycopy");
         while (library.find()) {
             String call = library.group(1) + "." + library.group(2);
             must(allowed.contains(call), call + " is of the library that the program uses");
