@@ -1405,6 +1405,10 @@ public final class ArchiveOfDeltas {
     private static final class Draws {
         int seed;
 
+        Draws() {
+            seed = 0;
+        }
+
         int below(int m) {
             seed = seed * 1664525 + 1013904223;
             return m > 0 ? (seed & Integer.MAX_VALUE) / 256 % m : 0;

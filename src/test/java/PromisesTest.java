@@ -492,7 +492,11 @@ public final class PromisesTest {
         due("there", x.count(1), 2);
         spelled(x, 1, "aahbcc");
         due("wrong", x.wrong(), 2);
-        // reached by a parent that is gone already
+        x = told("v..aabb;v..aabb;k20;h00;r;");
+        due("0 is by 1", x.version(0, 3), 1);
+        due("1 goes", x.collect(), 1);
+        due("0 is whole", x.version(0, 5), 5);
+        // a parent stays with its child
         x = told("v..a;v0.b;h01;c;");
         due("both stay", x.count(1), 3);
     }
@@ -512,6 +516,9 @@ public final class PromisesTest {
         due("the last", x.damages(0, 7, 2), 1);
         spelled(x, 1, "aaaabbbc");
         spelled(x, 2, "aaaabbbc");
+        x = told("v..aabb;v..aabb;k20;r;");
+        due("the greatest is whole", x.damages(1, 3, 7), 1);
+        spelled(x, 0, "aabh");
         refuses("of 5", y -> y.damages(5, 0, 0), -1);
         refuses("not whole, no place", y -> y.damages(1, 99, 9), -3);
         refuses("place 9", y -> y.damages(0, 9, 9), -1);
@@ -654,6 +661,11 @@ public final class PromisesTest {
         due("kind stays", x.kind(3, 0), 30);
         x = told(CHAIN);
         due("bound of a chain", x.best(0), 3);
+        x = told("v..aabbccddeeff;v..faaabbccddee;v..ddfaaabbccdd;", "v..baddfaaabbcc;v..cfbaddfaaabb;v..hfcfbaddfaaa;",
+                "v..abhfcfbaddfa;v..hbabhfcfbadd;v..hehbabhfcfba;");
+        due("bound of nine in a chain", x.best(0), 8);
+        x.bound(8);
+        due("depth of nine in a chain", x.repacked(1), 8);
         // plain 5, 5 and 7, longest and newest 9, 3 and 3
         x = told("v..abcd;v..efgh;v..abcdefgh;");
         due("plain", x.repacked(0), 17);
@@ -684,7 +696,7 @@ public final class PromisesTest {
         refuses("what -1", y -> y.bestBase(0, -1), -2);
     }
 
-    /** 0, 1 of 0, 2 of 0, 3 of 1 and 2, 4 alone, 5 of 4; gone: 0, 1 after 3 was taken off. */
+    /** 0, 1 of 0, 2 of 0, 3 of 1 and 2, 4 alone, 5 of 4. */
     private static final String FAMILY = "v..a;v0.ab;v0.ac;v12ab;v..ab;v4.c;";
 
     private static void reached() {
@@ -718,7 +730,6 @@ public final class PromisesTest {
         for (int v = 0; v < 6; v++) {
             due("of " + v, x.ancestors(v), due[v]);
         }
-        // there or not: 1 is moved to by the head, 0 is kept by it; then a gone one between
         x = told("v..a;v0.b;v..c;h02;", "c;");
         due("none", x.ancestors(2), 0);
         due("gone", x.ancestors(1), -1);
@@ -794,6 +805,16 @@ public final class PromisesTest {
         fetchIs(x, 0, 1, 6, 4 + 4, 0);
         fetchIs(x, 0, 2, 4, 10, 1);
         fetchIs(x, 0, 3, 4, 4, 0);
+        x = told("v..aabb;v..aabb;k20;r;h00;");
+        fetchIs(x, 0, 0, 1, 5, 1);
+        fetchIs(x, 0, 2, 1, 3, 0);
+        // had, but gone: it counts with what is reached from it
+        x = told("v..a;v0.b;v1.c;v..d;v0.e;h04;h13;c;");
+        due("2 is gone", x.count(1), 25);
+        fetchIs(x, 0, 4, 16, 2, 0);
+        fetchIs(x, 0, 2, 16, 2, 0);
+        fetchIs(x, 0, 8, 17, 4, 0);
+        fetchIs(x, 0, 32, 17, 4, 0);
         refuses("head 4", y -> y.fetch(4, -1, 3), -1);
         refuses("has -1", y -> y.fetch(0, -1, 3), -4);
         refuses("has 1024", y -> y.fetch(0, 1024, 3), -6);
@@ -980,6 +1001,9 @@ public final class PromisesTest {
         due("both", x.lots(2, 0, 0), 43 + 42);
         due("whole", x.lots(20, 3, 1), 20);
         due("nothing has come", x.count(0), 9);
+        // of 3 (a) and 7, that are there, the draw 1 is 7; of cdcdcdcdcgcd from it 9, g and 2 again
+        x = told("v..a;".repeat(7) + "v..cdcdcdcdcdcd;v..a;h03;h17;c;");
+        due("by numbers of those there", x.lots(1, 0, 0), 2 + 13 + 6);
         x = told("v..a;".repeat(10), "h00;c;");
         due("no room: the ones there alone", x.lots(3, 1, 0), 6);
         due("gone", x.heads(0, -1), 0);
@@ -1049,6 +1073,7 @@ public final class PromisesTest {
         for (int what = 0; what < due.length; what++) {
             due("count(" + what + ")", x.count(what), due[what]);
         }
+        due("0 alone is deepest", told("v..aabb;v..aabb;k20;r;").count(3), 1);
         int[] others = {-1, 8, 9, 10, 17, Integer.MIN_VALUE, Integer.MAX_VALUE};
         for (int what : others) {
             due("count(" + what + ")", x.count(what), -9);
