@@ -1,51 +1,37 @@
-import java.lang.reflect.InvocationTargetException;
-import java.lang.reflect.Method;
 import java.util.ArrayList;
-import java.util.Arrays;
-import java.util.Comparator;
 import java.util.List;
-import java.util.Map;
-import java.util.TreeMap;
 
 /** Runs of 512 calls, made by draws, on the class and on the model: every answer must be the same. */
 public final class ModelTest {
     private static final int RUNS = Integer.getInteger("runs", 3000);
-    private static final long LONG = 4000000000000000000L;
 
-    private final List<String> calls = new ArrayList<>();
-    private final Map<String, Integer> answers = new TreeMap<>();
-    private final Map<String, Method[]> methods = new TreeMap<>();
+    private final Beside two;
     private final List<String> names = new ArrayList<>();
     private long seed = 1;
-    private ArchiveOfDeltas archive;
     private Model model;
+
+    private ModelTest() throws Exception {
+        two = new Beside();
+        names.addAll(two.methods.keySet());
+    }
 
     public static void main(String[] args) throws Exception {
         System.exit(new ModelTest().all() ? 0 : 1);
     }
 
     private boolean all() throws Exception {
-        for (Method method : ArchiveOfDeltas.class.getDeclaredMethods()) {
-            if (java.lang.reflect.Modifier.isPublic(method.getModifiers())) {
-                Method twin = Model.class.getMethod(method.getName(), method.getParameterTypes());
-                twin.setAccessible(true);
-                methods.put(method.getName(), new Method[] {method, twin});
-            }
-        }
-        names.addAll(methods.keySet());
-        names.sort(Comparator.naturalOrder());
         for (int run = 1; run <= RUNS; run++) {
             seed = run * 7919L;
             if (!run()) {
                 System.out.println("run " + run + ":");
-                calls.forEach(System.out::println);
+                two.calls.forEach(System.out::println);
                 return false;
             }
         }
-        int kinds = answers.size();
+        int kinds = two.answers.size();
         System.out.println(RUNS + " runs as the model has it, " + kinds + " kinds of answers");
         if (Boolean.getBoolean("show")) {
-            answers.forEach((k, v) -> System.out.println(k + " " + v));
+            two.answers.forEach((k, v) -> System.out.println(k + " " + v));
         }
         return true;
     }
@@ -56,11 +42,10 @@ public final class ModelTest {
     }
 
     private boolean run() throws Exception {
-        archive = new ArchiveOfDeltas();
-        model = new Model();
-        calls.clear();
+        two.begin();
+        model = two.model;
         int greed = draw(4);
-        while (calls.size() < 512) {
+        while (two.calls.size() < 512) {
             int choice = draw(100);
             boolean same;
             if (choice < 6) {
@@ -84,7 +69,7 @@ public final class ModelTest {
         if (name.equals("collect") && draw(4) > 0 || name.equals("on") && draw(4) > 0) {
             name = draw(2) == 0 ? "edits" : "heads";
         }
-        int[] numbers = new int[methods.get(name)[0].getParameterCount()];
+        int[] numbers = new int[two.parameters(name)];
         for (int i = 0; i < numbers.length; i++) {
             numbers[i] = number();
         }
@@ -231,12 +216,7 @@ public final class ModelTest {
     }
 
     private boolean tells(String text) throws Exception {
-        for (char c : text.toCharArray()) {
-            if (!same("letter", c)) {
-                return false;
-            }
-        }
-        return draw(20) == 0 || same("archive");
+        return two.tells(text) && (draw(20) == 0 || same("archive"));
     }
 
     private String text() {
@@ -296,25 +276,6 @@ public final class ModelTest {
     }
 
     private boolean same(String name, int... numbers) throws Exception {
-        Object[] given = Arrays.stream(numbers).boxed().toArray();
-        Method[] two = methods.get(name);
-        long got = ((Number) two[0].invoke(archive, given)).longValue();
-        long want;
-        try {
-            want = ((Number) two[1].invoke(model, given)).longValue();
-        } catch (InvocationTargetException e) {
-            if (!(e.getCause() instanceof Model.Refused r)) {
-                throw e;
-            }
-            want = model.refuse(r);
-            want = two[0].getReturnType() == long.class ? LONG - want : want;
-        }
-        String call = name + Arrays.toString(numbers) + " = " + got;
-        calls.add(call);
-        answers.merge(name + " " + (got < 0 && got > -10 ? "" + got : got < -10 ? (got > -2000 ? "1" : "2") : "+"), 1, Integer::sum);
-        if (got != want) {
-            calls.add(call + ", due is " + want);
-        }
-        return got == want;
+        return two.same(name, numbers);
     }
 }

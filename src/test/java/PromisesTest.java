@@ -1,126 +1,10 @@
-import java.util.function.ToLongFunction;
-
 /** Promises 1 to 36 of the document, one by one; the numbers due are worked out by hand. */
-public final class PromisesTest {
-    private static final long LONG = 4000000000000000000L;
-
-    /**
-     * 0 abcabcabc, 1 abcabcabd of 0, 2 ddabcabc of 1, 3 abcabcabc of 1 and 2, 4 hgfe alone; head 0 is 3, head 1 is 2.
-     */
-    private static final String FIVE = "v..abcabcabc;v0.abcabcabd;v1.ddabcabc;v12abcabcabc;v..hgfe;h03;h12;";
-    /** The same, PLAIN: 0 whole, 1 by 0 (4), 2 by 0 (5), 3 by 0 (3), 4 whole. */
-    private static final String PACKED = FIVE + "r;";
-
-    /** Each is best told from the one before it. */
-    private static final String CHAIN = "v..aabbccddeeff;v..ggaabbccddee;v..hhggaabbccdd;v..fehhggaabbcc;";
-
-    private static int wrong = 0;
-    private static int promise = 0;
-
-    private static void due(String what, long got, long want) {
-        if (got != want) {
-            wrong++;
-            System.out.println("promise " + promise + ": " + what + " answered " + got + ", due is " + want);
-        }
+public final class PromisesTest extends Due {
+    public static void main(String[] args) throws Exception {
+        System.exit(allHold(PromisesTest.class, 1, 36) ? 0 : 1);
     }
 
-    private static ArchiveOfDeltas told(String... texts) {
-        ArchiveOfDeltas x = new ArchiveOfDeltas();
-        for (String text : texts) {
-            long statements = text.chars().filter(c -> c == ';').count();
-            due("archive of " + text, tell(x, text), statements);
-        }
-        return x;
-    }
-
-    private static int tell(ArchiveOfDeltas x, String text) {
-        for (int i = 0; i < text.length(); i++) {
-            x.letter(text.charAt(i));
-        }
-        return x.archive();
-    }
-
-    /** All that can be seen without a refusal, in some 120 calls. */
-    private static String seen(ArchiveOfDeltas x) {
-        StringBuilder all = new StringBuilder();
-        for (int what = 0; what <= 7; what++) {
-            all.append(x.count(what)).append(' ');
-        }
-        for (int v = 0; v < 10; v++) {
-            if ((x.count(1) >> v & 1) == 1) {
-                for (int what = 0; what <= 8; what++) {
-                    all.append(x.version(v, what)).append(' ');
-                }
-                for (int i = 0; i < x.version(v, 0); i++) {
-                    all.append((char) ('a' + x.spelt(v, i)));
-                }
-                all.append(' ');
-            }
-        }
-        for (int h = 0; h < 4; h++) {
-            all.append(x.generations(h, 0)).append(' ');
-        }
-        int repacker = x.kind(0, 0);
-        x.kind(repacker / 10, repacker % 10);
-        all.append(repacker).append(' ').append(x.whatIs(0)).append(' ').append(x.whatIs(1));
-        return all.toString();
-    }
-
-    private static String spelling(ArchiveOfDeltas x, int v) {
-        StringBuilder text = new StringBuilder();
-        for (int i = 0; i < x.version(v, 0); i++) {
-            text.append((char) ('a' + x.spelt(v, i)));
-        }
-        return text.toString();
-    }
-
-    private static void spelled(ArchiveOfDeltas x, int v, String want) {
-        due("spelling of " + v + ": " + spelling(x, v) + " for " + want, spelling(x, v).equals(want) ? 1 : 0, 1);
-    }
-
-    /** A call that is refused: it answers the number, counts it once, and nothing else changes. */
-    private static void refuses(String text, String what, ToLongFunction<ArchiveOfDeltas> call, int number) {
-        ArchiveOfDeltas x = told(text);
-        String before = seen(x);
-        due("letters", x.letter('v'), 1);
-        due("row", x.row(10), 1);
-        long got = call.applyAsLong(x);
-        due(what, got > LONG / 2 ? LONG - got : got, number);
-        due("row after " + what, x.clear(), 1);
-        due("letters after " + what, x.count(7), 1);
-        x.archive();
-        for (int i = 11; i <= 16; i++) {
-            due(what + ", then count(" + i + ")", x.count(i), i == 10 - number ? 1 : 0);
-        }
-        due("nothing changes by " + what, seen(x).equals(before) ? 1 : 0, 1);
-    }
-
-    private static void refuses(String what, ToLongFunction<ArchiveOfDeltas> call, int number) {
-        refuses(PACKED, what, call, number);
-    }
-
-    public static void main(String[] args) {
-        Runnable[] promises = {
-            PromisesTest::aNewObject, PromisesTest::letter, PromisesTest::archive, PromisesTest::edits,
-            PromisesTest::merges, PromisesTest::heads, PromisesTest::kind, PromisesTest::bound, PromisesTest::repack,
-            PromisesTest::collect, PromisesTest::damages, PromisesTest::version, PromisesTest::spelt,
-            PromisesTest::step, PromisesTest::delta, PromisesTest::repacked, PromisesTest::best,
-            PromisesTest::bestBase, PromisesTest::reached, PromisesTest::ancestors, PromisesTest::common,
-            PromisesTest::generations, PromisesTest::twin, PromisesTest::fetch, PromisesTest::wrong,
-            PromisesTest::hurt, PromisesTest::lost, PromisesTest::mean, PromisesTest::whatIs, PromisesTest::row,
-            PromisesTest::judge, PromisesTest::clear, PromisesTest::lots, PromisesTest::image, PromisesTest::on,
-            PromisesTest::count};
-        for (Runnable one : promises) {
-            promise++;
-            one.run();
-        }
-        System.out.println(promise + " promises: " + (wrong == 0 ? "all answers are as due" : wrong + " are not as due"));
-        if (wrong != 0 || promise != 36) {
-            System.exit(1);
-        }
-    }
-
-    private static void aNewObject() {
+    static void p01_aNewObject() {
         ArchiveOfDeltas x = new ArchiveOfDeltas();
         int[] due = {0, 0, 0, 0, 0, 4, 0, 0};
         for (int what = 0; what < due.length; what++) {
@@ -141,7 +25,7 @@ public final class PromisesTest {
         }
     }
 
-    private static void letter() {
+    static void p02_letter() {
         ArchiveOfDeltas x = new ArchiveOfDeltas();
         due("0", x.letter(0), 1);
         due("255", x.letter(255), 2);
@@ -175,7 +59,7 @@ public final class PromisesTest {
         }
     }
 
-    private static void archive() {
+    static void p03_archive() {
         ArchiveOfDeltas x = told("v..abcdefghabcd;", "v0.h;v01aa;h12;h30;h3.;k47;d8;r;x202;".replace("x202;", "x100c;"));
         due("came", x.count(0), 3);
         spelled(x, 0, "abcdefghabcd");
@@ -257,7 +141,7 @@ public final class PromisesTest {
         faults("v..a;", "h40;d9;", -2000);
     }
 
-    private static void edits() {
+    static void p04_edits() {
         ArchiveOfDeltas x = told("v..abc;");
         due("another letter", x.edits(0, 0, 7), 1);
         spelled(x, 1, "hbc");
@@ -299,7 +183,7 @@ public final class PromisesTest {
         refuses("v..a;v..b;h01;c;", "edits of one gone", y -> y.edits(0, 0, 1), -1);
     }
 
-    private static void merges() {
+    static void p05_merges() {
         ArchiveOfDeltas x = told(PACKED);
         due("a version", x.merges(2, 4), 5);
         spelled(x, 5, "ddabcabc");
@@ -319,7 +203,7 @@ public final class PromisesTest {
         refuses("v..a;v..b;h01;c;", "one gone", y -> y.merges(1, 0), -1);
     }
 
-    private static void heads() {
+    static void p06_heads() {
         ArchiveOfDeltas x = told(FIVE);
         due("0", x.heads(0, 4), 3);
         due("0 again", x.heads(0, -1), 4);
@@ -334,7 +218,7 @@ public final class PromisesTest {
         refuses("v..a;v..b;h01;c;", "one gone", y -> y.heads(0, 0), -1);
     }
 
-    private static void kind() {
+    static void p07_kind() {
         ArchiveOfDeltas x = new ArchiveOfDeltas();
         due("at first", x.kind(5, 9), 0);
         due("then", x.kind(3, 0), 59);
@@ -346,7 +230,7 @@ public final class PromisesTest {
         refuses("figure 10", y -> y.kind(1, 10), -6);
     }
 
-    private static void bound() {
+    static void p08_bound() {
         ArchiveOfDeltas x = new ArchiveOfDeltas();
         due("at first", x.bound(0), 4);
         due("then", x.bound(8), 0);
@@ -356,13 +240,7 @@ public final class PromisesTest {
         refuses("9", y -> y.bound(9), -6);
     }
 
-    private static void bases(String what, ArchiveOfDeltas x, int... due) {
-        for (int v = 0; v < due.length; v++) {
-            due(what + ": base of " + v, x.version(v, 3), due[v]);
-        }
-    }
-
-    private static void repack() {
+    static void p09_repack() {
         ArchiveOfDeltas x = told(FIVE);
         due("plain", x.repack(), 10 + 4 + 5 + 3 + 5);
         bases("plain", x, -9, 0, 0, 0, -9);
@@ -458,7 +336,7 @@ public final class PromisesTest {
         due("wrong", x.wrong(), 3);
     }
 
-    private static void collect() {
+    static void p10_collect() {
         ArchiveOfDeltas x = told(PACKED);
         due("4 goes", x.collect(), 1);
         due("there", x.count(1), 15);
@@ -501,7 +379,7 @@ public final class PromisesTest {
         due("both stay", x.count(1), 3);
     }
 
-    private static void damages() {
+    static void p11_damages() {
         ArchiveOfDeltas x = told("v..aaaabbbb;v..aaaabbbb;v..aaaabbbc;r;");
         bases("ahead", x, -9, 0, 0);
         due("a", x.damages(0, 1, 7), 0);
@@ -527,7 +405,7 @@ public final class PromisesTest {
         refuses("letter -1", y -> y.damages(0, 0, -1), -2);
     }
 
-    private static void version() {
+    static void p12_version() {
         ArchiveOfDeltas x = told(PACKED);
         int[] whole = {9, -9, -9, -9, 0, 10, hash("abcabcabc"), 1, 0};
         int[] second = {8, 1, -9, 0, 1, 5, hash("ddabcabc"), 1, 3};
@@ -551,15 +429,7 @@ public final class PromisesTest {
         refuses("what -1", y -> y.version(0, -1), -2);
     }
 
-    private static int hash(String letters) {
-        int hash = 7;
-        for (char c : letters.toCharArray()) {
-            hash = (hash * 31 + c - 'a') % 9973;
-        }
-        return hash;
-    }
-
-    private static void spelt() {
+    static void p13_spelt() {
         ArchiveOfDeltas x = told(PACKED);
         due("d", x.spelt(1, 8), 3);
         due("a", x.spelt(1, 0), 0);
@@ -570,7 +440,7 @@ public final class PromisesTest {
         refuses("place -1", y -> y.spelt(4, -1), -1);
     }
 
-    private static void step() {
+    static void p14_step() {
         ArchiveOfDeltas x = told(PACKED);
         // 2 is d, d, and "abcabc" from place 0
         int[][] due = {{0, 3}, {0, 3}, {6, 0}};
@@ -605,7 +475,7 @@ public final class PromisesTest {
         due("copies " + from + " " + to, x.delta(from, to, 2), copies);
     }
 
-    private static void delta() {
+    static void p15_delta() {
         ArchiveOfDeltas x = told(PACKED);
         deltaIs(x, 0, 0, 3, 1, 1);
         deltaIs(x, 0, 1, 4, 2, 1);
@@ -632,7 +502,7 @@ public final class PromisesTest {
         refuses("what -1", y -> y.delta(0, 0, -1), -2);
     }
 
-    private static void repacked() {
+    static void p16_repacked() {
         ArchiveOfDeltas x = told(FIVE);
         due("cost", x.repacked(0), 27);
         due("depth", x.repacked(1), 1);
@@ -649,7 +519,7 @@ public final class PromisesTest {
         refuses("what -1", y -> y.repacked(-1), -2);
     }
 
-    private static void best() {
+    static void p17_best() {
         ArchiveOfDeltas x = told(FIVE);
         due("bound", x.best(0), 1);
         due("kind", x.best(1), 0);
@@ -678,7 +548,7 @@ public final class PromisesTest {
         refuses("what -1", y -> y.best(-1), -2);
     }
 
-    private static void bestBase() {
+    static void p18_bestBase() {
         ArchiveOfDeltas x = told(FIVE);
         due("of 0", x.bestBase(0, 0), 3);
         due("of 0, cost", x.bestBase(0, 1), 3);
@@ -696,10 +566,7 @@ public final class PromisesTest {
         refuses("what -1", y -> y.bestBase(0, -1), -2);
     }
 
-    /** 0, 1 of 0, 2 of 0, 3 of 1 and 2, 4 alone, 5 of 4. */
-    private static final String FAMILY = "v..a;v0.ab;v0.ac;v12ab;v..ab;v4.c;";
-
-    private static void reached() {
+    static void p19_reached() {
         ArchiveOfDeltas x = told(FAMILY);
         due("none", x.reached(0), 0);
         due("garbage", x.reached(1), 63);
@@ -724,7 +591,7 @@ public final class PromisesTest {
         refuses("what -1", y -> y.reached(-1), -2);
     }
 
-    private static void ancestors() {
+    static void p20_ancestors() {
         ArchiveOfDeltas x = told(FAMILY);
         int[] due = {0, 1, 1, 7, 0, 16};
         for (int v = 0; v < 6; v++) {
@@ -737,7 +604,7 @@ public final class PromisesTest {
         refuses("-1", y -> y.ancestors(-1), -1);
     }
 
-    private static void common() {
+    static void p21_common() {
         ArchiveOfDeltas x = told(FAMILY);
         due("1 2", x.common(1, 2), 0);
         due("3 2", x.common(3, 2), 2);
@@ -750,7 +617,7 @@ public final class PromisesTest {
         refuses("0 5", y -> y.common(0, 5), -1);
     }
 
-    private static void generations() {
+    static void p22_generations() {
         ArchiveOfDeltas x = told("v..a;v0.b;v1.c;v20d;h03;h12;h20;");
         int[] due = {8, 8 + 4 + 1, 8 + 4 + 2 + 1, 15, 15};
         for (int n = 0; n < due.length; n++) {
@@ -766,7 +633,7 @@ public final class PromisesTest {
         refuses("n 10", y -> y.generations(0, 10), -6);
     }
 
-    private static void twin() {
+    static void p23_twin() {
         ArchiveOfDeltas x = told(PACKED);
         int[] due = {0, 1, 2, 0, 4};
         for (int v = 0; v < 5; v++) {
@@ -787,7 +654,7 @@ public final class PromisesTest {
         due("whole " + h + " " + has, x.fetch(h, has, 2), whole);
     }
 
-    private static void fetch() {
+    static void p24_fetch() {
         ArchiveOfDeltas x = told(PACKED);
         fetchIs(x, 0, 0, 15, 10 + 4 + 5 + 3, 0);
         fetchIs(x, 1, 0, 7, 10 + 4 + 5, 0);
@@ -822,7 +689,7 @@ public final class PromisesTest {
         refuses("what -1 of none", y -> y.fetch(2, 0, -1), -2);
     }
 
-    private static void wrong() {
+    static void p25_wrong() {
         ArchiveOfDeltas x = told(PACKED);
         due("none", x.wrong(), 0);
         x.damages(0, 0, 1);
@@ -839,7 +706,7 @@ public final class PromisesTest {
         due("there alone", x.wrong(), 9);
     }
 
-    private static void hurt() {
+    static void p26_hurt() {
         ArchiveOfDeltas x = told(PACKED);
         int[] due = {15, 2, 4, 8, 16};
         for (int v = 0; v < 5; v++) {
@@ -855,7 +722,7 @@ public final class PromisesTest {
         refuses("-1", y -> y.hurt(-1), -1);
     }
 
-    private static void lost() {
+    static void p27_lost() {
         ArchiveOfDeltas x = told(PACKED);
         due("above", x.lost(0, 2, 0), 1);
         due("below", x.lost(0, 2, 1), 4);
@@ -879,7 +746,7 @@ public final class PromisesTest {
         due("told as", x.lost(0, 1, 0), 4000000000000000004L);
     }
 
-    private static void mean() {
+    static void p28_mean() {
         ArchiveOfDeltas x = told(PACKED);
         due("above", x.mean(0), 27);
         due("below", x.mean(1), 5);
@@ -896,14 +763,7 @@ public final class PromisesTest {
         due("told as", x.mean(2), 4000000000000000002L);
     }
 
-    private static void rowOf(ArchiveOfDeltas x, int... numbers) {
-        x.clear();
-        for (int number : numbers) {
-            x.row(number);
-        }
-    }
-
-    private static void whatIs() {
+    static void p29_whatIs() {
         ArchiveOfDeltas x = told(FIVE);
         due("of none all", x.whatIs(0), 63);
         due("of none all", x.whatIs(1), 1023);
@@ -939,7 +799,7 @@ public final class PromisesTest {
         refuses("what -1", y -> y.whatIs(-1), -2);
     }
 
-    private static void row() {
+    static void p30_row() {
         ArchiveOfDeltas x = new ArchiveOfDeltas();
         due("0", x.row(0), 1);
         due("99", x.row(99), 2);
@@ -962,7 +822,7 @@ public final class PromisesTest {
         due("the row has none then", x.count(6), 0);
     }
 
-    private static void judge() {
+    static void p31_judge() {
         judged("v..abcd;", 0, -9, 0, 1, 2, 3);
         judged("v..abcd;", 0, 0);
         judged("v..abcd;", 0, 3, 0, 1, 2);
@@ -977,7 +837,7 @@ public final class PromisesTest {
         refuses("-1", y -> y.judge(-1), -1);
     }
 
-    private static void clear() {
+    static void p32_clear() {
         ArchiveOfDeltas x = new ArchiveOfDeltas();
         due("none", x.clear(), 0);
         rowOf(x, 1, 2, 3);
@@ -987,7 +847,7 @@ public final class PromisesTest {
         due("from the first on", x.row(7), 1);
     }
 
-    private static void lots() {
+    static void p33_lots() {
         ArchiveOfDeltas x = new ArchiveOfDeltas();
         due("a alone, five edits of it", x.lots(1, 7, 0), 12);
         due("five lots", x.lots(5, 7, 0), 60);
@@ -1018,7 +878,7 @@ public final class PromisesTest {
         refuses("what -1", y -> y.lots(1, 0, -1), -2);
     }
 
-    private static void image() {
+    static void p34_image() {
         ArchiveOfDeltas x = new ArchiveOfDeltas();
         due("none there", x.image(), 0);
         tell(x, PACKED);
@@ -1031,7 +891,7 @@ public final class PromisesTest {
         due("on from the later one", x.on(), 4);
     }
 
-    private static void on() {
+    static void p35_on() {
         ArchiveOfDeltas x = told(PACKED);
         due("there is none", x.on(), -3);
         due("state", x.count(13), 1);
@@ -1064,7 +924,7 @@ public final class PromisesTest {
         due("as then", seen(x).equals(before) ? 1 : 0, 1);
     }
 
-    private static void count() {
+    static void p36_count() {
         ArchiveOfDeltas x = told(PACKED + "c;", "v..ab;");
         x.row(1);
         x.letter('a');
