@@ -7,6 +7,7 @@ public final class ArchiveOfDeltas {
     private static final int ROOM = -6;
     private static final int LACKING = -9;
     private static final long REFUSED_LONG = 4000000000000000000L;
+    private static final int GREATEST_INT = 2147483647;
 
     private static final int NONE = -1;
     private static final int MOST_VERSIONS = 10;
@@ -271,7 +272,7 @@ public final class ArchiveOfDeltas {
         }
         int choices = what == 0 ? MOST_BOUND + 1 : KINDS;
         int best = 0;
-        int least = Integer.MAX_VALUE;
+        int least = GREATEST_INT;
         plan.learn(now);
         for (int i = 0; i < choices; i++) {
             if (what == 0) {
@@ -596,7 +597,7 @@ public final class ArchiveOfDeltas {
                 trial.comesAlone();
             } else {
                 int v = trial.heldAt(draws.below(Integer.bitCount(trial.there)));
-                int place = draws.below(trial.versions[v].letters.size);
+                int place = draws.below(trial.lettersOf(v));
                 trial.comesEdited(v, place, draws.below(KINDS_OF_LETTERS));
             }
         }
@@ -789,10 +790,6 @@ public final class ArchiveOfDeltas {
             }
         }
 
-        boolean hasParent(int number) {
-            return first == number || second == number;
-        }
-
         void copyFrom(Version other) {
             letters.copyFrom(other.letters);
             steps.copyFrom(other.steps);
@@ -850,6 +847,14 @@ public final class ArchiveOfDeltas {
 
         boolean hasRoom() {
             return came < MOST_VERSIONS;
+        }
+
+        int lettersOf(int v) {
+            return holds(v) ? versions[v].letters.size : 0;
+        }
+
+        boolean hasParent(int v, int other) {
+            return holds(v) && (versions[v].first == other || versions[v].second == other);
         }
 
         /** The version at a place among those there, by numbers. */
@@ -1125,14 +1130,14 @@ public final class ArchiveOfDeltas {
             }
             if (store != null) {
                 lineUp();
-                for (int i = 0; i < placed; i++) {
-                    choose(i);
+                for (int i = 0; i < placed && i < MOST_VERSIONS; i++) {
+                    choose(i, order[i]);
                 }
             }
         }
 
         private void lineUp() {
-            for (int v = 0; v < store.came && v < MOST_VERSIONS; v++) {
+            for (int v = 0; v < store.came && placed < MOST_VERSIONS; v++) {
                 if (store.holds(v)) {
                     int i = placed;
                     while (i > 0 && isAhead(v, order[i - 1])) {
@@ -1154,19 +1159,21 @@ public final class ArchiveOfDeltas {
                 case LONGEST:
                 case THRIFT:
                 case WINDOW:
-                    return store.versions[v].letters.size > store.versions[lesser].letters.size;
+                    return store.lettersOf(v) > store.lettersOf(lesser);
                 default:
                     return false;
             }
         }
 
-        private void choose(int i) {
-            int v = order[i];
+        private void choose(int i, int v) {
+            if (!store.holds(v)) {
+                return;
+            }
             int base = NONE;
-            int least = Integer.MAX_VALUE;
-            for (int j = 0; j < i; j++) {
+            int least = GREATEST_INT;
+            for (int j = 0; j < i && j < MOST_VERSIONS; j++) {
                 int from = order[j];
-                if (depths[from] < bound && mayBeBase(j, i)) {
+                if (store.holds(from) && depths[from] < bound && mayBeBase(from, v, i - j)) {
                     int at = from * MOST_VERSIONS + v;
                     if (costs[at] == 0) {
                         delta.make(store.versions[from].letters, store.versions[v].letters);
@@ -1179,7 +1186,7 @@ public final class ArchiveOfDeltas {
                 }
             }
             int whole = store.versions[v].wholeCost();
-            if (base != NONE && least <= whole - savings()) {
+            if (store.holds(base) && least <= whole - savings()) {
                 settle(v, base, depths[base] + 1, least);
             } else {
                 settle(v, TOLD_WHOLE, 0, whole);
@@ -1187,16 +1194,15 @@ public final class ArchiveOfDeltas {
             }
         }
 
-        private boolean mayBeBase(int j, int i) {
-            if (kind == WINDOW) {
-                return i - j <= figure;
+        private boolean mayBeBase(int from, int v, int placesAhead) {
+            switch (kind) {
+                case KIN:
+                    return store.hasParent(v, from) || store.hasParent(from, v);
+                case WINDOW:
+                    return placesAhead <= figure;
+                default:
+                    return true;
             }
-            if (kind != KIN) {
-                return true;
-            }
-            int v = order[i];
-            int other = order[j];
-            return store.versions[v].hasParent(other) || store.versions[other].hasParent(v);
         }
 
         private int savings() {
@@ -1411,7 +1417,7 @@ public final class ArchiveOfDeltas {
 
         int below(int m) {
             seed = seed * 1664525 + 1013904223;
-            return m > 0 ? (seed & Integer.MAX_VALUE) / 256 % m : 0;
+            return m > 0 ? (seed & GREATEST_INT) / 256 % m : 0;
         }
     }
 }
