@@ -1,4 +1,4 @@
-/** An archive of versions with letters and parents, stored whole or by deltas. */
+/** Makes all its rows in its constructor, so that no call makes an object. */
 public final class ArchiveOfDeltas {
     private static final int NOBODY = -1;
     private static final int OTHER = -2;
@@ -605,7 +605,7 @@ public final class ArchiveOfDeltas {
         plan.make(trial.kind, trial.figure, trial.bound);
     }
 
-    /** Numbers in a row, up to a greatest size. */
+    /** Has room from the start and tests every place, so that no index goes wrong. */
     private static final class Numbers {
         final int[] items;
         int size;
@@ -645,7 +645,6 @@ public final class ArchiveOfDeltas {
             System.arraycopy(other.items, 0, items, 0, size);
         }
 
-        /** How many numbers from a place on are the same as another's from a place on. */
         int alikeFrom(int place, Numbers other, int otherPlace) {
             if (place < 0 || otherPlace < 0) {
                 return 0;
@@ -671,7 +670,7 @@ public final class ArchiveOfDeltas {
         }
     }
 
-    /** The steps that make letters out of others. */
+    /** Can be made anew at every call: its steps stand in rows that stay. */
     private static final class Delta {
         final int[] copied;
         final int[] source;
@@ -695,7 +694,6 @@ public final class ArchiveOfDeltas {
             }
         }
 
-        /** Adds the step for a place: how many letters it makes. */
         private int addStep(Numbers from, Numbers to, int place) {
             int longest = 0;
             int where = 0;
@@ -747,7 +745,7 @@ public final class ArchiveOfDeltas {
         }
     }
 
-    /** A version: its letters are kept restored; of a whole one they are what is stored. */
+    /** Keeps its letters restored, so that damage alone has to spell anew; of a whole one they are what is stored. */
     private static final class Version {
         final Numbers letters;
         final Delta steps;
@@ -783,7 +781,7 @@ public final class ArchiveOfDeltas {
             return letters.hashed() == hash;
         }
 
-        /** Is stored whole, if its base is one of these (bits). */
+        /** Its letters are restored already, so that to be whole it needs no more than to have no base. */
         void leave(int gone) {
             if (!isWhole() && (gone >> base & 1) == 1) {
                 base = NONE;
@@ -801,7 +799,7 @@ public final class ArchiveOfDeltas {
         }
     }
 
-    /** All versions, the heads and the repacker: what an image keeps. */
+    /** Has in it all that an image keeps and a fault takes back, so that one copy does it. */
     private static final class Store {
         final Version[] versions;
         final int[] tops;
@@ -857,7 +855,6 @@ public final class ArchiveOfDeltas {
             return holds(v) && (versions[v].first == other || versions[v].second == other);
         }
 
-        /** The version at a place among those there, by numbers. */
         int heldAt(int place) {
             int ahead = 0;
             for (int v = 0; v < came; v++) {
@@ -945,7 +942,6 @@ public final class ArchiveOfDeltas {
             }
         }
 
-        /** How many went: all that no head reaches. */
         int dropGarbage() {
             int live = reachedFromHeads() & there;
             int gone = there & ~live;
@@ -994,7 +990,6 @@ public final class ArchiveOfDeltas {
             return v == NONE ? 0 : 1 << v;
         }
 
-        /** The version and all that its restored letters come from (bits). */
         int neededBy(int v) {
             int bits = 0;
             int link = v;
@@ -1058,7 +1053,6 @@ public final class ArchiveOfDeltas {
             return different;
         }
 
-        /** Those sent whole though they are stored by a base that is not known (bits). */
         int sentWhole(int sent, int known) {
             int bits = 0;
             for (int v = 0; v < came; v++) {
@@ -1084,7 +1078,7 @@ public final class ArchiveOfDeltas {
         }
     }
 
-    /** A repack in mind: which base each version of a store would have. */
+    /** Leaves the store as it is, so that a repack can be asked for without being done. */
     private static final class Plan {
         final int[] order;
         final int[] bases;
@@ -1109,7 +1103,7 @@ public final class ArchiveOfDeltas {
             store = null;
         }
 
-        /** What deltas cost is kept from here on: it is the same for every repacker. */
+        /** What a delta costs is the same for every repacker, so it is kept from plan to plan. */
         void learn(Store of) {
             store = of;
             for (int i = 0; i < costs.length; i++) {
@@ -1150,7 +1144,7 @@ public final class ArchiveOfDeltas {
             }
         }
 
-        /** Whether a version is placed ahead of one with a lesser number. */
+        /** The lesser number was lined up first, so of alike ones it stays ahead. */
         private boolean isAhead(int v, int lesser) {
             switch (kind) {
                 case NEWEST:
@@ -1231,7 +1225,7 @@ public final class ArchiveOfDeltas {
         }
     }
 
-    /** The letters told: statements for a store. */
+    /** Looks at the form of all letters first: a fault of form is told ahead of any other. */
     private static final class Told {
         final Numbers signs;
         final Numbers spelling;
@@ -1241,7 +1235,6 @@ public final class ArchiveOfDeltas {
             spelling = new Numbers(MOST_LETTERS);
         }
 
-        /** The first place with which no statements can go on, or none. */
         int placeOfFault() {
             int start = 0;
             for (int i = 0; i <= signs.size; i++) {
@@ -1265,7 +1258,6 @@ public final class ArchiveOfDeltas {
             return at + 1;
         }
 
-        /** The place in one statement that is not of its form, or none. */
         private int faultIn(int start) {
             String form = formOf(signs.at(start));
             int at = start + 1;
@@ -1293,7 +1285,6 @@ public final class ArchiveOfDeltas {
             }
         }
 
-        /** How many signs from a place on are as one sign of a form wants. */
         private int fitting(char wanted, int at) {
             int sign = signs.at(at);
             switch (wanted) {
@@ -1321,13 +1312,11 @@ public final class ArchiveOfDeltas {
             return sign >= 'a' && sign <= 'h';
         }
 
-        /** A digit's number; none of a point. */
         private int digitAt(int at) {
             int sign = signs.at(at);
             return isDigit(sign) ? sign - '0' : NONE;
         }
 
-        /** Runs the statement at a place, if it is as it must be. */
         boolean runsAt(int at, Store store, Plan plan) {
             int one = digitAt(at + 1);
             int two = digitAt(at + 2);
@@ -1407,7 +1396,7 @@ public final class ArchiveOfDeltas {
         }
     }
 
-    /** Draws from a seed. */
+    /** Keeps the seed, for the draws go on from one archive of a lot to the next. */
     private static final class Draws {
         int seed;
 

@@ -99,13 +99,15 @@ public final class LanguageTest {
 
     private void look(String source) throws Exception {
         JavaCompiler compiler = ToolProvider.getSystemJavaCompiler();
-        JavaFileObject file = new SimpleJavaFileObject(URI.create("string:///ArchiveOfDeltas.java"), JavaFileObject.Kind.SOURCE) {
+        URI name = URI.create("string:///ArchiveOfDeltas.java");
+        JavaFileObject file = new SimpleJavaFileObject(name, JavaFileObject.Kind.SOURCE) {
             @Override
             public CharSequence getCharContent(boolean ignored) {
                 return source;
             }
         };
-        JavacTask task = (JavacTask) compiler.getTask(null, null, null, List.of("--release", "17", "-proc:none"), null, List.of(file));
+        List<String> options = List.of("--release", "17", "-proc:none");
+        JavacTask task = (JavacTask) compiler.getTask(null, null, null, options, null, List.of(file));
         CompilationUnitTree unit = task.parse().iterator().next();
         task.analyze();
         must(unit.getImports().isEmpty() && unit.getPackageName() == null && unit.getTypeDecls().size() == 1, 1,
